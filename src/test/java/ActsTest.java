@@ -153,6 +153,7 @@ public final class ActsTest {
             }
             DUE.is("35: 60 are all", x.put(sort, 60, 1), -13);
             DUE.is("35: another one", x.row(sort, sort, 2), 1);
+            DUE.is("35: 0 again", x.element(sort, 0), 0);
             DUE.is("35: 0 again", x.element(sort, 1), 0);
             DUE.is("35: two", x.put(sort, 2, 1), -13);
         }

@@ -116,6 +116,17 @@ public final class FireTest {
         gives("0;6", 0);
         gives("0?5;2>1?7;8", 7);
         gives("1?0;6", 0);
+        // the longest: 120 bytes, a part each
+        StringBuilder longest = new StringBuilder("-0");
+        while (longest.length() < 120) {
+            longest.append("+1");
+        }
+        gives(longest.toString(), 59);
+        StringBuilder lines = new StringBuilder("0?1");
+        while (lines.length() + 4 < 118) {
+            lines.append(";0?1");
+        }
+        gives(lines + ";7", 7);
     }
 
     private static void names() {
@@ -170,6 +181,13 @@ public final class FireTest {
         Due.told(x, "k=0");
         x.mend(0, 3, 3);
         DUE.is("17: half of one counts as one", x.burns(0), 11);
+        // half of three, cut, is one: 24 of 36, then of 12 behind minute 5
+        x = Due.stack(3, 0, 0, 0, 4, 0, 1, 0);
+        Due.told(x, "k=0?3;0");
+        DUE.is("17: one of three", x.burns(0), 5);
+        x = Due.stack(5, 0, 0, 0, 4, 0, 1, 0);
+        Due.told(x, "k=0?3;0");
+        DUE.is("17: two of five till none is left", x.burns(0), 19);
         // what is above gets lighter, what bears it less; ROUND 1 of 9 counts 4 behind minute 2 + 53
         x = Due.stack(9, 0, 0, 0, 9, 0, 0, 0, 2, 0, 0, 2);
         Due.told(x, "k=1");
@@ -262,6 +280,17 @@ public final class FireTest {
         DUE.is("19: HOTTEST behind them", x.cracks(0, 1), 80);
         Due.told(x, "m=60?f;0");
         DUE.is("19: minute 60", x.cracks(0, 0), 60);
+        DUE.is("19: HOTTEST in minute 60", x.cracks(0, 1), 1020);
+        DUE.is("20: minute 60", x.boarded(0), -2);
+        Due.told(x, "0");
+        DUE.is("19: none burns", x.cracks(0, 1), 0);
+        DUE.is("19: none burns", x.cracks(0, 0), -2);
+        Due.told(x, "m=0?50;0");
+        DUE.is("19: minute 0", x.cracks(0, 0), 0);
+        DUE.is("19: HOTTEST in minute 0", x.cracks(0, 1), 440);
+        x.mend(0, 6, 401);
+        DUE.is("20: minute 0", x.boarded(0), 5);
+        x.mend(0, 6, 45);
         // it falls: that minute counts, none behind it; ROUND 0 of 1 is gone behind minute 3 by 0, 1, 2, 9
         x = Due.stack(1, 0, 0, 0, 4, 0, 0, 0);
         x.mend(0, 3, 1);

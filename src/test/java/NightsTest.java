@@ -76,6 +76,7 @@ public final class NightsTest {
         DUE.is("22: 99 at most", x.nights(99, 29), 99);
         DUE.is("22: two are too many", x.nights(99, 2), -5);
         DUE.is("22: BAD ahead of STATE", x.nights(99, 31), -1);
+        DUE.is("22: thirty", new PalletSky().nights(99, 30) >= 0 ? 1 : 0, 1);
         DUE.is("22: gone", x.of(0, 28), 29);
         DUE.is("22: the last one", x.nights(99, 1), 99);
         DUE.is("22: none is left", x.nights(99, 1), -5);
@@ -98,6 +99,8 @@ public final class NightsTest {
         for (int[] b : bad) {
             DUE.is("23: best(99, " + b[0] + ", " + b[1] + ")", x.best(99, b[0], b[1]), -1);
         }
+        DUE.is("23: one night", x.best(99, 1, 0), 0);
+        DUE.is("23: one night", x.best(99, 1, 1), 28);
         // thieves below 3 in nights 11 and 12
         DUE.is("23: of like ones the first", x.best(99, 11, 0), 0);
         DUE.is("23: none is stolen", x.best(99, 11, 1), 20 + 8 + 11 + 5 + 6 + 11 + 6 + 2 + 2 + 4 + 1);
@@ -292,11 +295,13 @@ public final class NightsTest {
         }
         for (int i = 39; i >= 0; i--) {
             DUE.is("29: undo", x.undo(), i);
+            DUE.is("29: is", x.of(0, 22), i + 3);
         }
         DUE.is("29: no more", x.undo(), -5);
         DUE.is("29: the three first are lost", x.of(0, 22), 3);
         for (int i = 39; i >= 0; i--) {
             DUE.is("30: redo", x.redo(), i);
+            DUE.is("30: is", x.of(0, 22), 43 - i);
         }
         DUE.is("30: is", x.of(0, 22), 43);
         x.undo();

@@ -58,6 +58,16 @@ public final class RoundsTest {
         DUE.is("2: just enough", x.build(50, 44), 3);
         DUE.is("2: none left", x.build(10, 44), -5);
         x = new PalletSky();
+        DUE.is("2: the broadest, all damp, slipped back left", x.build(99, 0), 0);
+        DUE.is("2: slip x", x.of(0, 0), -4);
+        DUE.is("2: slip y", x.of(0, 1), -4);
+        DUE.is("2: slipped fore right", x.build(10, 88), 1);
+        DUE.is("2: slip x", x.of(1, 0), 4);
+        DUE.is("2: slip y", x.of(1, 1), 4);
+        DUE.is("2: slipped back right", x.build(10, 80), 2);
+        DUE.is("2: slip x", x.of(2, 0), 4);
+        DUE.is("2: slip y", x.of(2, 1), -4);
+        x = new PalletSky();
         for (int i = 0; i < 20; i++) {
             DUE.is("2: build one", x.build(10, 44), i);
         }
@@ -212,6 +222,8 @@ public final class RoundsTest {
         x.pane(2000);
         DUE.is("7: MAY BE, the nearest", x.of(0, 27), 42);
         DUE.is("7: no such pane", x.of(3, 10), no);
+        DUE.is("7: no such what", x.of(0, 13), no);
+        DUE.is("7: no such what", x.of(0, 9), no);
         x.nights(3, 7);
         DUE.is("7: nights gone", x.of(0, 28), 7);
         // PUSH on ROUND 1 is 6 * 2 * (-4) and it bears 3 * 3 * 2; wind against it helps
@@ -254,7 +266,7 @@ public final class RoundsTest {
         fault("", 0);
         String[] good = {"f", "0", "9999", "0000", "f+p-d*k/m%w", "1?2", "1?2;3;4?5", "a".replace('a', 'w'), "!!!!!!f", "------f",
             "((((((f))))))", "!-(!-(1))", "1--1", "1<2&3>4|5=6", "(1<2)<3", "1<2?3<4", "(1)*(2)", "!1?2", "0|!f&-p",
-            "!!!!!!f+!!!!!!f"};
+            "!!!!!!f+!!!!!!f", "!!!!!!1?------f;((((((2))))))", "!(-!(-1))?-(!-(!1))"};
         for (String text : good) {
             fault(text, -1);
         }
@@ -283,6 +295,11 @@ public final class RoundsTest {
         DUE.is("9: law", Due.told(x, "5"), 1);
         DUE.is("9: it counts", x.fuel(0, 0), 31);
         DUE.is("9: a FAULT", Due.told(x, "9;"), -102);
+        DUE.is("9: the law before it counts", x.fuel(0, 0), 31);
+        x.mend(0, 2, 3);
+        DUE.is("9: and of another FUEL", x.fuel(0, 0), 19);
+        DUE.is("9: a FAULT ahead of all", Due.told(x, ";9"), -100);
+        x.mend(0, 2, 0);
         DUE.is("9: the law before it counts", x.fuel(0, 0), 31);
         DUE.is("9: another law", Due.told(x, "7"), 1);
         DUE.is("9: it counts", x.fuel(0, 0), 29);

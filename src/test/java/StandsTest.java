@@ -74,6 +74,9 @@ public final class StandsTest {
         // just within 99: 3 * 8 * 4 and one; 3 * 9 * 4 is too much
         toppled(2, 97, 8, 0, 0, 0, 4, 0, 0, 0);
         toppled(2, -2, 9, 0, 0, 0, 4, 0, 0, 0);
+        // along one axis alone: 12 of 12 along the other is held
+        toppled(0, 13, 2, 0, 0, 0, 2, 0, 0, 1);
+        toppled(1, 13, 2, 0, 0, 0, 2, 0, -1, 0);
         // less where it leans already: 105 - 30, 126 - 36, 168 - 84, and one
         toppled(0, 76, 7, 0, 0, 0, 5, 0, 1, 0);
         toppled(0, 91, 7, 0, 0, 0, 6, 0, 1, 0);
@@ -85,6 +88,12 @@ public final class StandsTest {
         toppled(1, 50, 3, 0, 0, 0, 9, 0, 0, 0, 2, 0, 0, 0);
         toppled(0, 32, 3, 0, 0, 0, 3, 0, 0, 0, 4, 0, 0, 0);
         toppled(3, 16, 9, 0, 0, 0, 9, 0, 0, 0, 5, 0, 0, 0, 1, 0, 0, 0);
+        // it is as it is now: without the topmost ROUND
+        PalletSky y = Due.stack(8, 0, 0, 0, 4, 0, 0, 0, 9, 0, 4, 0);
+        y.unbuild();
+        DUE.is("11: without the topmost", y.topples(0), 97);
+        DUE.is("10: without the topmost", y.falls(0), -2);
+        DUE.is("12: without the topmost", y.broad(0), 1);
         // one that falls without WIND falls by 0 in all directions, also where WIND would hold it
         for (int direction = 0; direction < 4; direction++) {
             toppled(direction, 0, 1, 0, 0, 0, 1, 0, 3, 0);
@@ -131,6 +140,19 @@ public final class StandsTest {
         DUE.is("13: with WIND", x.straight(2, 1), 6);
         DUE.is("13: with WIND, the first", x.straight(2, 0), 4);
         DUE.is("13: nothing came", x.count(0), 2);
+        // far to the right and fore all the more: no SLIP is enough; then far to the left and back
+        PalletSky far = Due.stack(5, 0, 0, 0, 9, 0, 4, 4, 9, 0, 4, 4);
+        DUE.is("13: farthest back left", far.straight(9, 0), 0);
+        DUE.is("13: farthest", far.straight(9, 1), 6 * 9 * (4 + 8 + 4));
+        far = Due.stack(5, 0, 0, 0, 9, 0, -4, -4, 9, 0, -4, -4);
+        DUE.is("13: farthest fore right", far.straight(9, 0), 88);
+        DUE.is("13: farthest", far.straight(9, 1), 6 * 9 * (4 + 8 + 4));
+        far = Due.stack(5, 0, 0, 0, 9, 0, 0, -4, 9, 0, 0, -4);
+        DUE.is("13: farthest fore, x does not matter", far.straight(9, 0), 8);
+        far = Due.stack(5, 0, 0, 0, 9, 0, -4, 0, 9, 0, -4, 0);
+        DUE.is("13: farthest right, y does not matter", far.straight(9, 0), 80);
+        far = Due.stack(5, 0, 4, 4, 1, 0, -3, 2);
+        DUE.is("13: 3 and -2, less 2 and -1, and so on", far.straight(1, 0), 10 * 8 + 0);
         for (int i = 2; i < 24; i++) {
             Due.bytes(x, 0, 1, 0, 0, 0);
             DUE.is("13: STATE no more", x.straight(1, 0) >= 0 ? 1 : 0, 1);
