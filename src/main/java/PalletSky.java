@@ -315,6 +315,10 @@ public final class PalletSky {
     }
 
     public int highest() {
+        // One that falls as it is has none more, also where some more would make it STAND again.
+        if (tower.fallsAt(windX, windY) != NOT) {
+            return 0;
+        }
         int enough = (store.dry + store.damp) / 3;
         thought.copy(tower);
         int more = 0;

@@ -496,13 +496,14 @@ final class Oracle {
 
     int highest() {
         List<R> s = thought();
-        int stock = store[0] + store[1];
-        for (int more = 0;; more++) {
-            if (stock < 3 || s.size() == 24) return more;
+        int stock = store[0] + store[1], most = 0;
+        while (fallsAt(s, counts(s), wx, wy) == NOT) {
+            most = s.size() - stack.size();
+            if (stock < 3 || s.size() == 24) break;
             s.add(new R(3, 0, 0, 0));
             stock -= 3;
-            if (fallsAt(s, counts(s), wx, wy) != NOT) return more;
         }
+        return most;
     }
 
     int fuel(int round, int minute) {

@@ -219,5 +219,40 @@ public final class StandsTest {
         // WIND takes 9 a ROUND off it: 27 k - 6 of 60 + 18 k
         x.mend(0, 3, -9);
         DUE.is("15: WIND helps", x.highest(), 7);
+        highestOfWhatFalls();
+    }
+
+    private static void highestOfWhatFalls() {
+        // by its SLIPS, 132 of 120 fore and back; with one more it would STAND: 150 of 156
+        PalletSky x = new PalletSky();
+        x.build(43, 0);
+        x.build(62, 61);
+        x.build(42, 26);
+        DUE.is("15: it falls", x.falls(0), 0);
+        DUE.is("15: it does not stand as it is", x.highest(), 0);
+        DUE.is("15: none came", x.count(0), 3);
+        DUE.is("15: none was taken", x.of(0, 24) + x.of(0, 25), 16);
+        x.mend(1, 1, -2);
+        DUE.is("15: it stands", x.falls(0), -2);
+        DUE.is("15: mended", x.highest(), 5);
+        // by WIND, 4 of 3; 8 of 12 with one more
+        x = Due.stack(1, 0, 0, 0, 1, 0, 0, 0);
+        x.mend(0, 3, 3);
+        DUE.is("15: WIND just held", x.highest(), 10);
+        x.mend(0, 3, 4);
+        DUE.is("15: WIND to the right", x.highest(), 0);
+        x.mend(0, 3, 0);
+        x.mend(0, 4, -4);
+        DUE.is("15: WIND back", x.highest(), 0);
+        // ROUND 0 holds, 8 of 54; ROUND 1 does not, 4 of 3; 8 of 12 with one more
+        x = Due.stack(9, 0, 0, 0, 1, 0, 0, 0, 1, 0, 0, 0);
+        x.mend(0, 4, 4);
+        DUE.is("15: ROUND 1 falls", x.falls(0), 1);
+        DUE.is("15: ROUNDS above the lowest are asked too", x.highest(), 0);
+        // 12 of 9 at ROUND 1; WIND from the other side holds it: 3 of 9, and 27 more by each of 27 more
+        x = Due.stack(9, 0, 0, 0, 3, 0, 0, 0, 1, 0, 2, 0);
+        DUE.is("15: without WIND", x.highest(), 0);
+        x.mend(0, 3, -9);
+        DUE.is("15: as it is, with WIND", x.highest(), 10);
     }
 }
