@@ -156,6 +156,8 @@ public final class NightsTest {
             DUE.is("24: " + (i + 1) + " ROUNDS", x.rival(99), night);
         }
         DUE.is("24: in thought", x.rival(99), x.rival(99));
+        // Of all SEEDS none needs more nights for 24 ROUNDS than this one (all 2^32 were run through).
+        DUE.is("24: the slowest", x.rival(1183306128), 89);
         // 8 % 12 is above 4 at first (8, 1, 5, 11 of the table are draws by 12, 6, 12, 12)
         PalletSky y = Due.stack(1, 0, 0, 0);
         DUE.is("24: the first night", y.rival(99), 1);
