@@ -7,12 +7,17 @@ public final class ActsTest {
         act();
         trace();
         wrap();
+        wraps();
         keep();
+        keepAtTheEnds();
         row();
         put();
+        lowestBits();
         shift();
+        shiftAsBefore();
         taken();
         count();
+        counts();
         DUE.end();
     }
 
@@ -114,6 +119,52 @@ public final class ActsTest {
         DUE.is("32: below 0", x.act(0, 2, -1), -1);
     }
 
+    // The acts of a KIND with number n, said as sums.
+
+    private static int stands(int kind, int n, int x) {
+        return kind == 6 ? (x + n) * 2 : kind == 1 || kind == 4 || kind == 7 ? x + n + 3 : x + n;
+    }
+
+    private static int burns(int kind, int n, int x) {
+        return kind == 3 || kind == 5 ? (x ^ n) * 3 : kind == 4 || kind == 7 ? (x ^ n) - (n + 5) : x ^ n;
+    }
+
+    private static int leans(int kind, int n, int x) {
+        switch (kind) {
+            case 2: return -(2 * (x + n));
+            case 3: case 5: return -(2 * (x + 1 + n));
+            case 7: return 2 * (x + n + 3) + burns(7, n, 2);
+            default: return 2 * stands(kind, n, x);
+        }
+    }
+
+    private static int tells(int kind, int n, int x) {
+        int plain = leans(kind, n, x) - burns(kind, n, 1);
+        return kind == 5 ? plain ^ 5 : kind == 7 ? plain - 1 : plain;
+    }
+
+    /** Ints that wrap: each KIND, each ACT, the first and the last number, x at the ends and about their halves. */
+    private static void wraps() {
+        int min = Integer.MIN_VALUE, max = Integer.MAX_VALUE;
+        int[] values = {min, min + 1, min + 49, min / 2, min / 2 - 1, min / 2 - 50, min / 3, -50, -1, 0, 1, max / 3, max / 2,
+            max / 2 + 1, max / 2 - 49, max - 49, max - 3, max - 1, max};
+        for (int kind = 0; kind < 8; kind++) {
+            PalletSky x = new PalletSky();
+            for (int i = 0; i < 50; i++) {
+                x.body(kind);
+            }
+            for (int n = 0; n < 50; n += 49) {
+                for (int v : values) {
+                    String with = " of KIND " + kind + ", number " + n + " with " + v;
+                    DUE.is("32: stands" + with, x.act(n, 0, v), stands(kind, n, v));
+                    DUE.is("32: leans" + with, x.act(n, 1, v), leans(kind, n, v));
+                    DUE.is("32: burns" + with, x.act(n, 2, v), burns(kind, n, v));
+                    DUE.is("32: tells" + with, x.act(n, 3, v), tells(kind, n, v));
+                }
+            }
+        }
+    }
+
     private static void keep() {
         PalletSky x = new PalletSky();
         DUE.is("34: shelf", x.keep(-1, -1), -1);
@@ -134,6 +185,30 @@ public final class ActsTest {
         x.row(0, 0, 3);
         x.keep(0, 0);
         DUE.is("34: a ROUND in its place", x.put(0, 0, 1), -12);
+    }
+
+    /** The last BODY on the last SHELF. */
+    private static void keepAtTheEnds() {
+        PalletSky x = new PalletSky();
+        for (int i = 0; i < 50; i++) {
+            DUE.is("34: not kept yet", x.keep(5, i), -1);
+            x.body(i % 8);
+            DUE.is("34: keep", x.keep(5, i), 1);
+            DUE.is("39: its KIND", x.taken(5, 0), i % 8);
+        }
+        DUE.is("34: BODY 50", x.keep(5, 50), -1);
+        DUE.is("31: FULL", x.body(3), -3);
+        DUE.is("34: BODY 50 still", x.keep(5, 50), -1);
+        DUE.is("39: BODY 49 stays", x.taken(5, 0), 1);
+        // one BODY on all SHELVES
+        for (int shelf = 0; shelf <= 5; shelf++) {
+            DUE.is("34: keep", x.keep(shelf, 7), 1);
+            DUE.is("39: CROWN as TURNED", x.taken(shelf, 4), 7);
+        }
+        DUE.is("34: nothing", x.keep(2, -1), 1);
+        DUE.is("34: nothing again", x.keep(2, -1), 1);
+        DUE.is("39: nothing", x.taken(2, 4), -11);
+        DUE.is("39: beside it", x.taken(1, 4) + x.taken(3, 4), 14);
     }
 
     private static void row() {
@@ -190,6 +265,84 @@ public final class ActsTest {
                 DUE.is("36: put", x.put(1, 2, v), 1);
                 DUE.is("37: sort " + sort + " of " + v, x.element(1, 2), due[sort]);
                 DUE.is("37: the one beside it", x.element(1, 1), 0);
+            }
+        }
+    }
+
+    private static void bits(int sort, long v, long due) {
+        PalletSky x = new PalletSky();
+        x.row(0, sort, 3);
+        DUE.is("36: put", x.put(0, 1, v), 1);
+        DUE.is("37: sort " + sort + " of " + v, x.element(0, 1), due);
+        DUE.is("37: ahead of it", x.element(0, 0), 0);
+        DUE.is("37: behind it", x.element(0, 2), 0);
+    }
+
+    /** What is put in keeps its lowest bits: the last value that fits and the first that does not, either side. */
+    private static void lowestBits() {
+        int[] bits = {8, 16, 32};
+        for (int sort = 0; sort < 3; sort++) {
+            long top = 1L << bits[sort] - 1;
+            bits(sort, top - 1, top - 1);
+            bits(sort, top, -top);
+            bits(sort, top + 1, -top + 1);
+            bits(sort, -top, -top);
+            bits(sort, -top - 1, top - 1);
+            bits(sort, 2 * top - 1, -1);
+            bits(sort, 2 * top, 0);
+            bits(sort, 2 * top + 1, 1);
+            bits(sort, -2 * top, 0);
+            bits(sort, Long.MAX_VALUE, -1);
+            bits(sort, Long.MIN_VALUE, 0);
+        }
+        for (long v : new long[] {Long.MAX_VALUE, Long.MIN_VALUE, -1, 0, 1, 1L << 32, 1L << 62, -1L << 32}) {
+            bits(3, v, v);
+            bits(4, v, v == 0 ? 0 : 1);
+        }
+        // whether it is not 0, of all its bits
+        for (int i = 0; i < 64; i++) {
+            bits(4, 1L << i, 1);
+            bits(0, 1L << i, i < 7 ? 1L << i : i == 7 ? -128 : 0);
+        }
+    }
+
+    /** As they all were before, wherever the two overlap; the whole ROW and nothing of it. */
+    private static void shiftAsBefore() {
+        for (int i = 0; i <= 6; i++) {
+            for (int j = 0; j <= 6; j++) {
+                for (int n = 0; n <= 7; n++) {
+                    PalletSky x = new PalletSky();
+                    Due.bytes(x, 2, 1, 2, 3, 4, 5, 6);
+                    int[] due = {1, 2, 3, 4, 5, 6};
+                    boolean there = i + n <= 6 && j + n <= 6;
+                    for (int k = 0; there && k < n; k++) {
+                        due[j + k] = i + k + 1;
+                    }
+                    DUE.is("38: shift(2, " + i + ", 2, " + j + ", " + n + ")", x.shift(2, i, 2, j, n), there ? n : -13);
+                    for (int k = 0; k < 6; k++) {
+                        DUE.is("38: element " + k, x.element(2, k), due[k]);
+                    }
+                }
+            }
+        }
+        for (int sort = 0; sort <= 4; sort++) {
+            PalletSky x = new PalletSky();
+            x.row(0, sort, 60);
+            x.row(1, sort, 60);
+            x.row(2, sort, 0);
+            x.put(0, 0, 1);
+            x.put(0, 59, 1);
+            DUE.is("38: 60 are all", x.shift(0, 0, 1, 0, 60), 60);
+            DUE.is("38: the first", x.element(1, 0), 1);
+            DUE.is("38: the last", x.element(1, 59), 1);
+            DUE.is("38: 61", x.shift(0, 0, 1, 0, 61), -13);
+            DUE.is("38: of an empty one none", x.shift(2, 0, 1, 60, 0), 0);
+            DUE.is("38: of an empty one one", x.shift(2, 0, 1, 0, 1), -13);
+            DUE.is("38: to an empty one", x.shift(0, 60, 2, 0, 0), 0);
+            for (int other = 0; other <= 4; other++) {
+                x.row(3, other, 60);
+                DUE.is("38: sorts " + sort + ", " + other, x.shift(0, 0, 3, 0, 1), other == sort ? 1 : -12);
+                DUE.is("38: none of them", x.shift(3, 60, 0, 60, 0), other == sort ? 0 : -12);
             }
         }
     }
@@ -280,5 +433,51 @@ public final class ActsTest {
         for (int what = 0; what < 7; what++) {
             DUE.is("40: count(" + what + ")", x.count(what), due[what]);
         }
+    }
+
+    /** From none to as many as there can be. */
+    private static void counts() {
+        PalletSky x = new PalletSky();
+        Due.bytes(x, 0, 9, 0, 0, 0);
+        for (int i = 0; i <= 24; i++) {
+            DUE.is("40: ROUNDS", x.count(0), i);
+            DUE.is("40: PALLETS", x.count(2), 9 * i);
+            x.rounds(0, 0, 1);
+        }
+        DUE.is("40: no more ROUNDS", x.count(0) * 1000 + x.count(2), 24216);
+        for (int i = 0; i <= 8; i++) {
+            DUE.is("40: PANES", x.count(1), i);
+            x.pane(100);
+        }
+        DUE.is("40: no more PANES", x.count(1), 8);
+        for (int i = 0; i <= 40; i++) {
+            DUE.is("40: changes", x.count(4), i);
+            x.mend(0, 6, i + 1);
+        }
+        DUE.is("40: no more changes", x.count(4), 40);
+        x.undo();
+        DUE.is("40: one was UNDONE", x.count(4), 39);
+        x.redo();
+        DUE.is("40: and DONE AGAIN", x.count(4), 40);
+        PalletSky y = new PalletSky();
+        for (int i = 0; i <= 120; i++) {
+            DUE.is("40: bytes", y.count(3), i);
+            y.feed('7');
+        }
+        DUE.is("40: no more bytes", y.count(3), 120);
+        y.law();
+        DUE.is("40: none behind law()", y.count(3), 0);
+        for (int i = 0; i <= 50; i++) {
+            DUE.is("40: BODIES", y.count(5), i);
+            y.body(7);
+        }
+        DUE.is("40: no more BODIES", y.count(5), 50);
+        int[] ran = {2, 8, 4, 14};
+        for (int act = 0; act < 4; act++) {
+            y.act(0, act, 1);
+            DUE.is("40: bodies that ran", y.count(6), ran[act]);
+        }
+        y.act(50, 0, 1);
+        DUE.is("40: none ran", y.count(6), 0);
     }
 }

@@ -43,6 +43,25 @@ final class Due {
         return x;
     }
 
+    /** Four ROUNDS without SLIP, by which STORE has nothing, then STORE brought to so many by unbuilding ROUNDS from a ROW. */
+    static PalletSky stored(int dry, int damp) {
+        PalletSky x = new PalletSky();
+        for (int pd : new int[] {99, 91, 90, 30}) {
+            x.build(pd, 44);
+        }
+        int left = dry, wet = damp;
+        while (left + wet > 0) {
+            int p = Math.min(9, left + wet), d = Math.min(p, wet);
+            bytes(x, 5, p, d, 0, 0);
+            x.rounds(5, 0, 1);
+            x.unbuild();
+            left -= p - d;
+            wet -= d;
+        }
+        x.keep(5, -1);
+        return x;
+    }
+
     void end() {
         System.out.println(name + ": " + asked + " answers, " + wrong + " not as due");
         if (wrong != 0) {

@@ -4,14 +4,25 @@ public final class FireTest {
 
     public static void main(String[] args) {
         fuel();
+        firstFuel();
         lit();
+        litTooLate();
         worth();
+        held();
+        wraps();
         names();
+        withoutText();
         falls();
+        halves();
         burntOut();
+        outInTime();
         heat();
+        heatCut();
         cracks();
+        limits();
+        tillItFalls();
         boarded();
+        boards();
         inThought();
         DUE.end();
     }
@@ -34,6 +45,47 @@ public final class FireTest {
         DUE.is("16: WIND without signs, (4 + 7) / 2 + 1", x.fuel(0, 0), 38);
         x.mend(0, 2, 4);
         DUE.is("16: all damp", x.fuel(0, 0), 26);
+    }
+
+    /** 12 for each dry PALLET, 8 for each damp one. */
+    private static void firstFuel() {
+        for (int pallets = 1; pallets <= 9; pallets++) {
+            for (int damp = 0; damp <= pallets; damp++) {
+                PalletSky x = Due.stack(pallets, damp, 0, 0);
+                Due.told(x, "0");
+                DUE.is("16: FUEL of " + pallets + ", " + damp, x.fuel(0, 0), 12 * (pallets - damp) + 8 * damp);
+                DUE.is("16: and at the end", x.fuel(0, 60), 12 * (pallets - damp) + 8 * damp);
+                // more DAMP than dry: 4 minutes, else 2
+                PalletSky y = Due.stack(9, 9, 0, 0, pallets, damp, 0, 0);
+                Due.told(y, "1");
+                int from = 2 * damp > pallets ? 4 : 2, first = y.fuel(1, 0);
+                DUE.is("16: not LIT yet", y.fuel(1, from - 1), first);
+                DUE.is("16: LIT", y.fuel(1, from), first - 1);
+            }
+        }
+    }
+
+    /** LIT in minute 60, and never till then. */
+    private static void litTooLate() {
+        int[] fours = new int[96];
+        for (int i = 0; i < 96; i += 4) {
+            fours[i] = 1;
+            fours[i + 1] = 1;
+        }
+        PalletSky x = Due.stack(fours);
+        Due.told(x, "1");
+        for (int i = 0; i < 24; i++) {
+            DUE.is("16: ROUND " + i + " of damp ones", x.fuel(i, 60), Math.min(8, Math.max(0, 8 - (61 - 4 * i))));
+        }
+        DUE.is("16: ROUND 15 ahead of minute 60", x.fuel(15, 59), 8);
+        DUE.is("16: ROUND 15 in minute 60", x.fuel(15, 60), 7);
+        DUE.is("16: ROUND 16 never", x.fuel(16, 60), 8);
+        DUE.is("17: so not all is BURNT OUT", x.burns(3), -2);
+        // what is LIT hangs on all ROUNDS below: dry ones come sooner
+        x.mend(1, 2, 0);
+        x.mend(15, 2, 0);
+        DUE.is("16: ROUND 16 by two dry ones below", x.fuel(16, 60), 7);
+        DUE.is("16: not sooner", x.fuel(16, 59), 8);
     }
 
     private static void lit() {
@@ -129,6 +181,108 @@ public final class FireTest {
         gives(lines + ";7", 7);
     }
 
+    /** What burns is held within 0 .. FUEL left. */
+    private static void held() {
+        gives("107", 107);
+        gives("108", 108);
+        gives("109", 108);
+        gives("f", 108);
+        gives("f-1", 107);
+        gives("f+1", 108);
+        gives("1", 1);
+        gives("0", 0);
+        gives("-1", 0);
+        gives("0-1", 0);
+        gives("8192*8192*32", 0);
+        gives("8192*8192*32-1", 108);
+        PalletSky x = Due.stack(1, 1, 0, 0);
+        Due.told(x, "5");
+        int[] left = {3, 0, 0};
+        for (int minute = 0; minute < 3; minute++) {
+            DUE.is("16: 5 of 8, then 3, then none", x.fuel(0, minute), left[minute]);
+        }
+        Due.told(x, "4-8*(m%2)");
+        int[] less = {4, 4, 0, 0};
+        for (int minute = 0; minute < 4; minute++) {
+            DUE.is("16: 4, then none of -4, then 4", x.fuel(0, minute), less[minute]);
+        }
+    }
+
+    /** Whether a text gives what is told, which need not be within 0 .. FUEL. */
+    private static void equal(String text, int due) {
+        StringBuilder told = new StringBuilder(text).append('=');
+        // told by its halves of four digits at most: due = (a * 9999 + b) * 9999 + c
+        long rest = due;
+        long c = Math.floorMod(rest, 9999L);
+        rest = Math.floorDiv(rest, 9999L);
+        long b = Math.floorMod(rest, 9999L), a = Math.floorDiv(rest, 9999L);
+        told.append('(').append(a < 0 ? "-" : "").append(Math.abs(a)).append("*9999+").append(b).append(")*9999+").append(c);
+        gives(told.toString(), 1);
+    }
+
+    /** Ints that wrap; / and % toward 0, by 0 they give 0. */
+    private static void wraps() {
+        int big = 9999 * 9999, min = Integer.MIN_VALUE, max = Integer.MAX_VALUE;
+        String least = "8192*8192*32", most = "(8192*8192*32-1)";
+        equal("9999*9999", big);
+        equal("9999*9999*9999", big * 9999);
+        equal("9999*9999*9999*9999", big * big);
+        equal(least, min);
+        equal(most, max);
+        equal(most + "+1", min);
+        equal(least + "-1", max);
+        equal("0-" + least, min);
+        equal("-(" + least + ")", min);
+        equal("-" + most, -max);
+        equal(most + "*2", -2);
+        equal(most + "*" + most, 1);
+        equal(least + "/-1", min);
+        equal(least + "%-1", 0);
+        equal(least + "/2", min / 2);
+        equal(most + "/-2", max / -2);
+        equal("7/2", 3);
+        equal("-7/2", -3);
+        equal("7/-2", -3);
+        equal("-7/-2", 3);
+        equal("7%2", 1);
+        equal("-7%2", -1);
+        equal("7%-2", 1);
+        equal("-7%-2", -1);
+        equal("1/2", 0);
+        equal("-1/2", 0);
+        equal("5/0", 0);
+        equal("-5/0", 0);
+        equal("0/0", 0);
+        equal("5%0", 0);
+        equal("-5%0", 0);
+        equal("0%0", 0);
+        equal(least + "/0", 0);
+        equal("6/(3-3)+1", 1);
+        // compared as ints, too
+        gives(least + "<" + most, 1);
+        gives(most + "+1<0", 1);
+        gives(least + "=-(" + least + ")", 1);
+        gives("!" + most, 0);
+        gives("!!(" + least + ")", 1);
+        gives("!(" + least + "*2)", 1);
+        gives(least + "&" + least, 1);
+        gives(least + "*2&1", 0);
+        gives("-1|0", 1);
+    }
+
+    /** p and w, by 2 (cut), and 1. */
+    private static void withoutText() {
+        for (int pallets = 1; pallets <= 9; pallets++) {
+            PalletSky x = Due.stack(pallets, 0, 0, 0);
+            for (int wind = 0; wind <= 18; wind++) {
+                x.mend(0, 3, wind < 9 ? wind : -9);
+                x.mend(0, 4, wind < 9 ? 0 : 9 - wind);
+                DUE.is("9: p " + pallets + ", w " + wind, 12 * pallets - x.fuel(0, 0),
+                    Math.min(12 * pallets, (pallets + wind) / 2 + 1));
+            }
+        }
+    }
+
     private static void names() {
         PalletSky x = Due.stack(5, 3, 0, 0, 4, 1, 0, 0);
         x.mend(0, 3, -2);
@@ -214,6 +368,91 @@ public final class FireTest {
         DUE.is("17: minute 60", x.burns(0), 60);
     }
 
+    /** What falls in minute 0 by so much burning of ROUND 0, if it is to bear more than it then can. */
+    private static void half(int pallets, int wind, int burns, int due) {
+        PalletSky x = Due.stack(pallets, 0, 0, 0, 1, 0, 0, 0);
+        x.mend(0, 3, wind);
+        Due.told(x, "k=0&m=0?" + burns + ";0");
+        DUE.is("17: " + burns + " of " + 12 * pallets + " against " + wind, x.burns(0), due);
+        DUE.is("17: FUEL that is left", x.fuel(0, 60), 12 * pallets - burns);
+    }
+
+    /** Half its first FUEL or less: half its PALLETS, cut, 1 at least; none: no PALLETS. */
+    private static void halves() {
+        // 3 by 3: 9, by 1: 3, by none: 0
+        half(3, 9, 0, -2);
+        half(3, 9, 17, -2);
+        half(3, 9, 18, 0);
+        half(3, 9, 19, 0);
+        half(3, 4, 17, -2);
+        half(3, 4, 18, 0);
+        half(3, 3, 18, -2);
+        half(3, 3, 35, -2);
+        half(3, 3, 36, 0);
+        half(3, 1, 35, -2);
+        half(3, 1, 36, 0);
+        half(3, 0, 36, -2);
+        // 2 by 1, 1 by 1 till none is left
+        half(2, 4, 11, -2);
+        half(2, 4, 12, 0);
+        half(2, 3, 12, -2);
+        half(2, 3, 23, -2);
+        half(2, 3, 24, 0);
+        half(1, 3, 6, -2);
+        half(1, 3, 11, -2);
+        half(1, 3, 12, 0);
+        // 4 by 2 (6), 5 by 2 (6)
+        half(4, 6, 24, -2);
+        half(4, 7, 23, -2);
+        half(4, 7, 24, 0);
+        half(5, 6, 30, -2);
+        half(5, 7, 29, -2);
+        half(5, 7, 30, 0);
+        // half is passed between two minutes: 29, 22, 15 of 36
+        PalletSky x = Due.stack(3, 0, 0, 0, 4, 0, 1, 0);
+        Due.told(x, "k=0?7;0");
+        DUE.is("17: 15 of 36", x.burns(0), 2);
+        // damp ones: 8 each, half of 16
+        x = Due.stack(2, 2, 0, 0, 1, 0, 0, 0);
+        x.mend(0, 4, -4);
+        Due.told(x, "k=0?1;0");
+        DUE.is("17: 8 of 16", x.burns(0), 7);
+        DUE.is("17: back", x.burns(2), 3);
+        // what is above counts less too: ROUND 1 of 9 bears 8 above, then 4: 24 of 216, 24 of 108
+        x = Due.stack(9, 0, 0, 0, 1, 0, 0, 0, 8, 0, 0, 0);
+        x.mend(0, 3, 9);
+        Due.told(x, "k=2&m=4?48;0");
+        DUE.is("17: 9 against 3 * 1 * 8, then 3 * 1 * 4", x.burns(0), -2);
+        Due.told(x, "k=2&m=4?96;0");
+        DUE.is("17: then 3 * 1 * 0", x.burns(0), 4);
+        DUE.is("17: at ROUND 1", x.burns(1), 1);
+    }
+
+    /** BURNT OUT and FALLS in minute 60 are in time, behind it is not. */
+    private static void outInTime() {
+        PalletSky x = Due.stack(5, 0, 0, 0);
+        int[] from = {0, 1, 2};
+        int[] due = {59, 60, -2};
+        for (int i = 0; i < 3; i++) {
+            Due.told(x, "m<" + from[i] + "?0;1");
+            DUE.is("17: 60 from minute " + from[i] + " on", x.burns(3), due[i]);
+        }
+        // it falls as ROUND 0 has half of its 60
+        x = Due.stack(5, 0, 0, 0, 1, 0, 0, 0);
+        x.mend(0, 4, 9);
+        for (int first = 29; first <= 33; first++) {
+            Due.told(x, "k=1?0;m<" + first + "?0;1");
+            int minute = first + 29;
+            DUE.is("17: falls in " + minute, x.burns(0), minute <= 60 ? minute : -2);
+            DUE.is("17: at", x.burns(1), minute <= 60 ? 0 : -2);
+            DUE.is("17: whither", x.burns(2), minute <= 60 ? 1 : -2);
+        }
+        // ROUNDS that are never LIT keep their FUEL
+        DUE.is("17: no ROUND, no FUEL", new PalletSky().burns(3), 0);
+        Due.told(x, "0");
+        DUE.is("17: none burns", x.burns(3), -2);
+    }
+
     private static void burntOut() {
         PalletSky x = Due.stack(5, 0, 0, 0);
         Due.told(x, "1");
@@ -255,6 +494,101 @@ public final class FireTest {
         DUE.is("18: far", x.heat(2, 0), 3);
         x.pane(100);
         DUE.is("18: near", x.heat(3, 0), 300);
+    }
+
+    /** By FAR and how many ROUNDS above or below, together; cut each; less 20 for each of BOARDS, 0 at least. */
+    private static void heatCut() {
+        PalletSky x = Due.stack(2, 0, 0, 0, 2, 0, 0, 0, 2, 0, 0, 0);
+        Due.told(x, "2");
+        x.pane(601);
+        DUE.is("18: 28.57 and 33.33 and 28.57, cut each", x.heat(0, 4), 28 + 33 + 28);
+        x.pane(9900);
+        x.pane(9923);
+        x.pane(100);
+        x.pane(123);
+        DUE.is("18: the farthest", x.heat(1, 4), 2 + 2 + 1);
+        DUE.is("18: the farthest and highest", x.heat(2, 4), 1 + 1 + 1);
+        DUE.is("18: the nearest", x.heat(3, 4), 200 + 100 + 66);
+        DUE.is("18: as high as ROUND 23", x.heat(4, 4), 8 + 8 + 9);
+        // 89 less 20 each: 69, 49, 29, 9, 0
+        for (int boards = 0; boards <= 9; boards++) {
+            x.mend(0, 5, boards);
+            DUE.is("18: " + boards + " BOARDS", x.heat(0, 4), Math.max(0, 89 - 20 * boards));
+            DUE.is("19: HOTTEST behind " + boards, x.cracks(0, 1), Math.max(0, 89 - 20 * boards));
+        }
+        // just 20, and one more
+        PalletSky y = Due.stack(4, 0, 0, 0);
+        y.pane(500);
+        Due.told(y, "1");
+        DUE.is("18: 20", y.heat(0, 0), 20);
+        y.mend(0, 5, 1);
+        DUE.is("18: 20 less 20", y.heat(0, 0), 0);
+        y.mend(0, 5, 2);
+        DUE.is("18: 20 less 40", y.heat(0, 0), 0);
+        // no ROUNDS, no HEAT
+        PalletSky z = new PalletSky();
+        z.pane(100);
+        DUE.is("18: no ROUNDS", z.heat(0, 0), 0);
+        DUE.is("19: no ROUNDS", z.cracks(0, 0), -2);
+        DUE.is("19: no ROUNDS", z.cracks(0, 1), 0);
+        DUE.is("20: no ROUNDS", z.boarded(0), 0);
+    }
+
+    /** LIMIT from 1 to 999. */
+    private static void limits() {
+        PalletSky x = Due.stack(1, 0, 0, 0);
+        Due.told(x, "m=7");
+        x.pane(9901);
+        x.mend(0, 6, 1);
+        DUE.is("18: 100 by 100", x.heat(0, 7), 1);
+        DUE.is("19: 0 is less than 1, 1 is not", x.cracks(0, 0), 7);
+        DUE.is("19: HOTTEST", x.cracks(0, 1), 1);
+        DUE.is("20: one is enough", x.boarded(0), 1);
+        x.mend(0, 6, 2);
+        DUE.is("19: 1 is less than 2", x.cracks(0, 0), -2);
+        DUE.is("20: none is needed", x.boarded(0), 0);
+        Due.told(x, "0");
+        x.mend(0, 6, 1);
+        DUE.is("19: 0 is less than 1", x.cracks(0, 0), -2);
+        DUE.is("19: HOTTEST of none, without BOARDS", x.cracks(0, 1), 0);
+        // 900, 66 and 33
+        PalletSky y = Due.stack(9, 0, 0, 0, 9, 0, 0, 0, 9, 0, 0, 0, 9, 0, 0, 0, 9, 0, 0, 0);
+        y.pane(102);
+        y.mend(0, 6, 999);
+        Due.told(y, "m=20?(k=2)*9+(k=0)*2+(k=4);0");
+        DUE.is("18: 999", y.heat(0, 20), 999);
+        DUE.is("19: 999 is LIMIT", y.cracks(0, 0), 20);
+        y.mend(0, 5, 1);
+        DUE.is("19: 979", y.cracks(0, 0), -2);
+        y.mend(0, 5, 0);
+        Due.told(y, "m=20?(k=2)*9+(k=0)*2;0");
+        DUE.is("18: 966", y.heat(0, 20), 966);
+        DUE.is("19: 966", y.cracks(0, 0), -2);
+        y.mend(0, 6, 966);
+        DUE.is("19: 966 is LIMIT", y.cracks(0, 0), 20);
+        y.mend(0, 6, 967);
+        DUE.is("19: one less than LIMIT", y.cracks(0, 0), -2);
+    }
+
+    /** Till it FALLS; that minute counts, the one behind it does not. */
+    private static void tillItFalls() {
+        PalletSky x = Due.stack(2, 0, 0, 0, 1, 0, 0, 0);
+        x.pane(100);
+        x.mend(0, 3, 4);
+        // ROUND 0 has 13 of 24 behind minute 9, 12 behind minute 10
+        for (int hot = 8; hot <= 12; hot++) {
+            Due.told(x, "k=1?(m=" + hot + ")*8;m=0?2;m<11");
+            DUE.is("17: falls", x.burns(0), 10);
+            DUE.is("18: hot in " + hot, x.heat(0, hot), 400 + (hot < 11 ? 100 : 0));
+            DUE.is("19: CRACKS by 200 in minute 0", x.cracks(0, 0), 0);
+            x.mend(0, 6, 201);
+            DUE.is("19: CRACKS by more than 200", x.cracks(0, 0), hot <= 10 ? hot : -2);
+            DUE.is("20: BOARDED", x.boarded(0), hot <= 10 ? -2 : 0);
+            x.mend(0, 6, 500);
+            DUE.is("20: BOARDED by 500", x.boarded(0), hot <= 10 ? 1 : 0);
+            DUE.is("19: HOTTEST of all", x.cracks(0, 1), 400 + (hot < 11 ? 100 : 0));
+            x.mend(0, 6, 200);
+        }
     }
 
     private static void cracks() {
@@ -339,6 +673,41 @@ public final class FireTest {
         DUE.is("20: 229 in minute 3: 120 and 109", x.boarded(0), 7);
         x.mend(1, 0, 4);
         DUE.is("20: it falls at once", x.boarded(0), 0);
+    }
+
+    /** The fewest BOARDS, from none to 9, on each PANE; NOT: 9 are not enough for one. */
+    private static void boards() {
+        PalletSky x = Due.stack(9, 0, 0, 0);
+        Due.told(x, "m=0?30;0");
+        int[] limits = {301, 300, 282, 281, 280, 262, 261, 260, 141, 140, 122, 121, 120, 101, 100};
+        int[] due = {0, 1, 1, 1, 2, 2, 2, 3, 8, 9, 9, 9, -2, -2, -2};
+        x.pane(1000);
+        for (int i = 0; i < limits.length; i++) {
+            x.mend(0, 6, limits[i]);
+            DUE.is("20: 300 by LIMIT " + limits[i], x.boarded(0), due[i]);
+            DUE.is("20: together", x.boarded(-1), due[i]);
+        }
+        // eight PANES together; one for which 9 are not enough
+        x = Due.stack(9, 0, 0, 0);
+        Due.told(x, "m=0?30;0");
+        x.mend(0, 6, 121);
+        int sum = 0;
+        for (int i = 0; i < 8; i++) {
+            DUE.is("20: together, " + i, x.boarded(-1), sum);
+            x.pane(100 * (10 + i));
+            int glow = 3000 / (10 + i), fewest = Math.max(0, (glow - 121) / 20 + 1);
+            DUE.is("20: of one", x.boarded(i), fewest);
+            sum += fewest;
+        }
+        DUE.is("20: eight together", x.boarded(-1), sum);
+        // what is there does not matter, nor is any put there
+        x.mend(3, 5, 9);
+        DUE.is("20: together", x.boarded(-1), sum);
+        DUE.is("20: in thought", x.of(2, 12), 0);
+        x.mend(0, 6, 120);
+        DUE.is("20: NOT for the nearest", x.boarded(0), -2);
+        DUE.is("20: so NOT together", x.boarded(-1), -2);
+        DUE.is("20: the farthest", x.boarded(7), 3);
     }
 
     /** A fire is in thought, and of what is there as it is asked for. */

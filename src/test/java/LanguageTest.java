@@ -1,3 +1,5 @@
+import java.io.PrintWriter;
+import java.io.StringWriter;
 import java.lang.reflect.Constructor;
 import java.lang.reflect.Field;
 import java.lang.reflect.Method;
@@ -7,9 +9,13 @@ import java.nio.file.Path;
 import java.util.ArrayList;
 import java.util.Arrays;
 import java.util.List;
+import java.util.Map;
+import java.util.Set;
+import java.util.TreeMap;
 import java.util.TreeSet;
 import java.util.regex.Matcher;
 import java.util.regex.Pattern;
+import java.util.spi.ToolProvider;
 
 /** What of LANGUAGE.md can be seen from the file's text and from the class itself. */
 public final class LanguageTest {
@@ -18,6 +24,21 @@ public final class LanguageTest {
         + " cracks(ii)i element(ii)l falls(i)i feed(i)i fuel(ii)i heat(ii)i highest()i image()i judge(ii)i keep(ii)i law()i"
         + " led(i)i mend(iii)i nights(ii)i of(ii)i pane(i)i put(iil)i redo()i rival(i)i rounds(iii)i row(iii)i shift(iiiii)i"
         + " straight(ii)i taken(ii)i topples(i)i trace(i)i unbuild()i undo()i watch(ii)i without()i";
+
+    // Rule 8: those that call themselves or one another; each carries its depth, or its level and how many are open.
+    private static final List<String> RECURSIVE = List.of("PalletSky$Parser.chain", "PalletSky$Parser.operand",
+        "PalletSky$Bodies.run", "PalletSky$Bodies.result");
+    private static final List<String> LIBRARY = List.of("java/lang/Object.<init>", "java/lang/System.arraycopy",
+        "java/lang/Math.max", "java/lang/Math.min", "java/lang/Math.abs", "java/lang/Integer.bitCount");
+
+    // How javap shows the head of a method, and a step of it; of a call also whose and which.
+    private static final Pattern HEAD = Pattern.compile("^  (?:\\w.*?)?(?:([\\w$]+)\\(.*\\)|static \\{\\});$");
+    private static final Pattern STEP = Pattern.compile(
+        "^ +\\d+: (\\w+) *(?:#\\d+.*// (?:Interface)?Method ([\\w$/]+\\.)?\"?([\\w<>]+)\"?:.*)?");
+
+    /** Who calls whom, by class and name; and what is called of the library. */
+    private static final Map<String, Set<String>> calls = new TreeMap<>();
+    private static final Set<String> library = new TreeSet<>();
 
     public static void main(String[] args) throws Exception {
         String source = Files.readString(Path.of("src/main/java/PalletSky.java"));
@@ -34,7 +55,11 @@ public final class LanguageTest {
         is("rule 11: classes", classes.size() <= 12);
         for (Class<?> c : classes) {
             members(c);
+            code(c);
         }
+        int deep = deepest("");
+        is("rule 11: " + deep + " calls deep", deep >= 3 && deep <= 8);
+        is("rules 4, 13: the library " + library, LIBRARY.containsAll(library));
         DUE.end();
     }
 
@@ -85,6 +110,60 @@ public final class LanguageTest {
         is("methods are found", found > 80);
     }
 
+    private static String shown(Class<?> c) throws Exception {
+        Path at = Path.of(PalletSky.class.getProtectionDomain().getCodeSource().getLocation().toURI());
+        StringWriter text = new StringWriter();
+        PrintWriter out = new PrintWriter(text);
+        ToolProvider.findFirst("javap").orElseThrow().run(out, out, "-c", "-p", at.resolve(c.getName() + ".class").toString());
+        return text.toString();
+    }
+
+    /** What can be seen of a class by javap: its calls, and what rules 2, 3, 6 leave out. */
+    private static void code(Class<?> c) throws Exception {
+        String caller = "";
+        int found = 0;
+        for (String line : shown(c).split("\n")) {
+            Matcher head = HEAD.matcher(line);
+            Matcher step = STEP.matcher(line);
+            if (head.find()) {
+                String name = head.group(1) == null ? "<clinit>" : head.group(1).equals(c.getName()) ? "<init>" : head.group(1);
+                caller = c.getName() + "." + name;
+                calls.putIfAbsent(caller, new TreeSet<>());
+                found++;
+            } else if (step.find()) {
+                step(c, caller, line, step);
+            }
+            is("rule 6: no table of exceptions in " + caller, !line.contains("Exception table:"));
+        }
+        is("methods of " + c + " are seen", found > 0);
+    }
+
+    private static void step(Class<?> c, String caller, String line, Matcher step) {
+        String what = step.group(1);
+        is("rules 2, 3, 6: no " + what + " in " + caller,
+            !what.matches("athrow|monitor.*|invokedynamic|[fd](add|sub|mul|div|rem|load.*|store.*)"));
+        if (!what.startsWith("invoke")) {
+            return;
+        }
+        is("each call is understood: " + line, step.group(3) != null);
+        String owner = step.group(2) == null ? c.getName() + "." : step.group(2);
+        (owner.startsWith("PalletSky") ? calls.get(caller) : library).add(owner + step.group(3));
+    }
+
+    /** How many calls deep it goes from a method on ("": from any), where those that are recursion do not count. */
+    private static int deepest(String path) {
+        int most = 0;
+        String last = path.substring(path.lastIndexOf(' ') + 1);
+        for (String next : path.isEmpty() ? calls.keySet() : calls.getOrDefault(last, Set.of())) {
+            boolean again = (path + " ").contains(" " + next + " ");
+            is("rule 8: only these are recursion, not " + next, !again || RECURSIVE.contains(next));
+            if (!again) {
+                most = Math.max(most, 1 + deepest(path + " " + next) - (RECURSIVE.contains(next) ? 1 : 0));
+            }
+        }
+        return most;
+    }
+
     private static String typed(Class<?> type) {
         return type == int.class ? "i" : type == long.class ? "l" : "?";
     }
@@ -130,6 +209,13 @@ public final class LanguageTest {
                 is("rule 5: final " + f, Modifier.isFinal(f.getModifiers()));
                 is("rule 5: type of " + f, f.getType() == int.class || f.getType() == int[].class);
             }
+            Class<?> type = f.getType();
+            while (type.isArray()) {
+                type = type.getComponentType();
+            }
+            is("rule 3: type of " + f, type == int.class || type == long.class || type == boolean.class
+                || type.getName().startsWith("PalletSky"));
+            is("rule 3: " + f, !f.getType().getName().startsWith("[[[") && !f.getType().getName().startsWith("[[L"));
         }
         is("rule 11: fields of " + c, own <= 20);
         String names = " " + FACE.replaceAll("\\([il]*\\)[il]", " ");

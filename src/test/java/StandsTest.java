@@ -4,11 +4,15 @@ public final class StandsTest {
 
     public static void main(String[] args) {
         falls();
+        bounds();
+        whither();
+        alone();
         topples();
         broad();
         straight();
         without();
         highest();
+        highestByStore();
         DUE.end();
     }
 
@@ -48,6 +52,86 @@ public final class StandsTest {
         x.mend(2, 1, -1);
         DUE.is("10: 36 of 18", x.falls(0), 0);
         DUE.is("10: back", x.falls(1), 3);
+    }
+
+    /** Just held and one more, by WIND alone and by SLIP and WIND, on each of the four sides. */
+    private static void bounds() {
+        int[] axis = {3, 4, 3, 4}, sign = {1, 1, -1, -1};
+        for (int side = 0; side < 4; side++) {
+            // 3 * 1 * 2 and 2 ROUNDS above: WIND 3
+            PalletSky x = Due.stack(1, 0, 0, 0, 1, 0, 0, 0, 1, 0, 0, 0);
+            x.mend(0, axis[side], 3 * sign[side]);
+            DUE.is("10: just held on side " + side, x.falls(0), -2);
+            DUE.is("10: just held on side " + side, x.falls(1), -2);
+            DUE.is("7: HOLDS", x.of(0, 6), 1);
+            x.mend(0, axis[side], 4 * sign[side]);
+            DUE.is("10: one more on side " + side, x.falls(0), 0);
+            DUE.is("10: whither", x.falls(1), side);
+            DUE.is("7: HOLDS not", x.of(0, 6), 0);
+            // 3 * p * q and 6 * q * SLIP: p 2, SLIP 1
+            for (int q = 1; q <= 9; q++) {
+                int slip = 6 * q * sign[side];
+                x = side % 2 == 0 ? Due.stack(2, 0, 4, 4, q, 0, sign[side], 0) : Due.stack(2, 0, 4, 4, q, 0, 0, sign[side]);
+                DUE.is("10: " + slip + " is just held", x.falls(0), -2);
+                x.mend(0, axis[side], sign[side]);
+                DUE.is("10: " + slip + " and 1 of WIND", x.falls(0), 0);
+                DUE.is("10: whither", x.falls(1), side);
+                x.mend(0, axis[side], -sign[side]);
+                DUE.is("10: " + slip + " less 1 of WIND", x.falls(0), -2);
+            }
+        }
+        // both of x and y at the bound
+        PalletSky x = Due.stack(2, 0, 0, 0, 3, 0, 1, -1);
+        DUE.is("10: both just held", x.falls(0), -2);
+        // a PUSH farther up is taken against the ROUND that holds: 6 * (1 + 2) of 3 * 3 * 2
+        x = Due.stack(3, 0, 4, 0, 1, 0, 1, 0, 1, 0, 1, 0);
+        DUE.is("10: 18 of 18, and 6 of 3 above", x.falls(0), 1);
+        x = Due.stack(3, 0, -4, 0, 2, 0, 1, 0, 1, 0, 1, 0);
+        DUE.is("10: 24 of 27, and 6 of 6 above", x.falls(0), -2);
+    }
+
+    /** Of like ones x; by its sign. */
+    private static void whither() {
+        int[][] due = {{3, 3, 0}, {3, -3, 0}, {-3, 3, 2}, {-3, -3, 2}, {3, 2, 0}, {-3, 2, 2}, {3, -2, 0}, {-3, -2, 2}, {2, 3, 1},
+            {2, -3, 3}, {-2, 3, 1}, {-2, -3, 3}, {3, 0, 0}, {0, 3, 1}, {-3, 0, 2}, {0, -3, 3}};
+        for (int[] d : due) {
+            PalletSky x = Due.stack(1, 0, 0, 0, 1, 0, d[0], d[1]);
+            DUE.is("10: by SLIP " + d[0] + " and " + d[1], x.falls(1), d[2]);
+            DUE.is("17: by SLIP " + d[0] + " and " + d[1], x.burns(2), d[2]);
+            x = Due.stack(1, 0, 0, 0, 1, 0, 0, 0);
+            x.mend(0, 3, 2 * d[0]);
+            x.mend(0, 4, 2 * d[1]);
+            DUE.is("10: by WIND " + 2 * d[0] + " and " + 2 * d[1], x.falls(1), d[2]);
+        }
+        // one PUSH against the other: 12 of SLIP less 9 of WIND is as much as 3 of WIND
+        PalletSky x = Due.stack(1, 0, 0, 0, 1, 0, 2, 0, 1, 0, 0, 0);
+        x.mend(0, 3, -9);
+        x.mend(0, 4, 3);
+        DUE.is("10: 24 - 18 and 6 of 6", x.falls(0), 1);
+        DUE.is("10: ROUND 1 by 9 to the left", x.falls(1), 2);
+    }
+
+    /** What bears nothing STANDS: no ROUND, one ROUND, the topmost one. */
+    private static void alone() {
+        for (int wind = -9; wind <= 9; wind += 9) {
+            PalletSky bare = new PalletSky(), x = Due.stack(1, 1, -4, 4);
+            bare.mend(0, 3, wind);
+            x.mend(0, 3, wind);
+            x.mend(0, 4, -wind);
+            for (int what = 0; what <= 1; what++) {
+                DUE.is("10: bare", bare.falls(what), -2);
+                DUE.is("10: one ROUND", x.falls(what), -2);
+            }
+            for (int direction = 0; direction < 4; direction++) {
+                DUE.is("11: bare", bare.topples(direction), -2);
+                DUE.is("11: one ROUND", x.topples(direction), -2);
+            }
+            DUE.is("7: one ROUND HOLDS", x.of(0, 6), 1);
+            DUE.is("12: one ROUND", x.broad(0), 1);
+            DUE.is("14: one ROUND of one", x.without(), 0);
+            DUE.is("14: one ROUND of two", Due.stack(2, 2, 0, 0).without(), 1);
+            DUE.is("14: bare", bare.without(), 0);
+        }
     }
 
     private static void toppled(int direction, int due, int... fours) {
@@ -254,5 +338,23 @@ public final class StandsTest {
         DUE.is("15: without WIND", x.highest(), 0);
         x.mend(0, 3, -9);
         DUE.is("15: as it is, with WIND", x.highest(), 10);
+    }
+
+    /** STORE has less than 3, dry and damp ones alike. */
+    private static void highestByStore() {
+        for (int dry = 0; dry <= 7; dry++) {
+            for (int damp = 0; damp <= 7; damp++) {
+                PalletSky x = Due.stored(dry, damp);
+                DUE.is("15: by " + dry + " dry and " + damp + " damp ones", x.highest(), (dry + damp) / 3);
+                DUE.is("15: in thought", x.of(0, 24) + x.of(0, 25), dry + damp);
+            }
+        }
+        // there are 24
+        PalletSky x = new PalletSky();
+        Due.bytes(x, 0, 9, 0, 0, 0);
+        for (int there = 0; there <= 24; there++) {
+            DUE.is("15: till there are 24, on " + there, x.highest(), Math.min(10, 24 - there));
+            x.rounds(0, 0, 1);
+        }
     }
 }
