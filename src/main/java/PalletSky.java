@@ -784,10 +784,12 @@ public final class PalletSky {
             boolean counts = true;
             for (int i = 0; i < size; i++) {
                 int part = parts[i];
-                if (part == NUMBER) {
-                    stack[top++] = values[i];
-                } else if (part == NAME) {
-                    stack[top++] = valueOf(values[i], names);
+                if (part == NUMBER || part == NAME) {
+                    if (top >= MOST) {
+                        return 0;
+                    }
+                    stack[top] = part == NUMBER ? values[i] : valueOf(values[i], names);
+                    top++;
                 } else if (top < 1) {
                     return 0;
                 } else if (part == '?') {

@@ -16,11 +16,15 @@ final class Due {
         }
     }
 
-    /** Feeds a text byte by byte and makes it THE LAW: what law() answers. */
-    static int told(PalletSky x, String text) {
+    static void feed(PalletSky x, String text) {
         for (int i = 0; i < text.length(); i++) {
             x.feed(text.charAt(i));
         }
+    }
+
+    /** Feeds a text byte by byte and makes it THE LAW: what law() answers. */
+    static int told(PalletSky x, String text) {
+        feed(x, text);
         return x.law();
     }
 

@@ -6,9 +6,7 @@ import java.util.List;
  * no object is to come to more than 512 calls.
  */
 final class Looks {
-    static final int PARTS = 9;
-    /** The part that shows THE TRACE, and the one that shows THE TAPE. */
-    static final int TRACE = 5, TAPE = 8;
+    static final int PARTS = 13;
 
     private final PalletSky x;
     private final List<Long> seen = new ArrayList<>();
@@ -26,9 +24,8 @@ final class Looks {
             case 3: looks.undone(); break;
             case 4: looks.doneAgain(); break;
             case 5: looks.bodies(); break;
-            case 6: looks.shelves(0); break;
-            case 7: looks.shelves(3); break;
-            default: looks.tape(); break;
+            case 6: looks.tape(); break;
+            default: looks.shelf(part - 7); break;
         }
         return looks.seen;
     }
@@ -128,6 +125,14 @@ final class Looks {
             see(x.redo());
             values();
         }
+        // so that a ROUND that is lost may be there again
+        for (int i = 0; i < 3; i++) {
+            see(x.build(10, 44));
+        }
+        for (int i = 0; i < 10; i++) {
+            see(x.redo());
+            values();
+        }
     }
 
     private void bodies() {
@@ -142,18 +147,16 @@ final class Looks {
         }
     }
 
-    private void shelves(int first) {
-        for (int shelf = first; shelf < first + 3; shelf++) {
-            for (int i = 0; i <= 60; i++) {
-                see(x.element(shelf, i));
-            }
-            for (int k = 0; k < 8; k++) {
-                see(x.taken(shelf, k));
-            }
-            // the sort, by the lowest bits that are kept
-            see(x.put(shelf, 0, 0x1234567890ABCDEFL));
-            see(x.element(shelf, 0));
+    private void shelf(int shelf) {
+        for (int i = 0; i <= 60; i++) {
+            see(x.element(shelf, i));
         }
+        for (int k = 0; k < 8; k++) {
+            see(x.taken(shelf, k));
+        }
+        // the sort, by the lowest bits that are kept
+        see(x.put(shelf, 0, 0x1234567890ABCDEFL));
+        see(x.element(shelf, 0));
     }
 
     private void tape() {

@@ -14,7 +14,7 @@ public final class RefusalsTest {
     private static Supplier<PalletSky> made;
     private static List<List<Long>> before;
 
-    public static void main(String[] args) throws Exception {
+    public static void main(String[] args) {
         bare();
         some();
         badOfSome();
@@ -22,6 +22,7 @@ public final class RefusalsTest {
         fullStack();
         fullChanges();
         fullActs();
+        lacking();
         poor();
         lost();
         traceAndTape();
@@ -86,39 +87,41 @@ public final class RefusalsTest {
 
     // ---- states
 
-    private static void feed(PalletSky x, String text) {
-        for (int i = 0; i < text.length(); i++) {
-            x.feed(text.charAt(i));
-        }
-    }
+    private static final int[][] CHANGES = {{0, 3, 2}, {0, 4, -1}, {1, 5, 2}, {0, 6, 90}, {2, 2, 1}, {0, 0, 3}, {0, 7, 9},
+        {0, 6, 70}, {0, 3, 1}};
 
-    /** Of everything some. SHELF 0: bytes, 1: shorts, 2: a ROUND, 3: nothing, 4: longs, 5: booleans. */
-    private static PalletSky something(String tape, boolean acts) {
+    /**
+     * Of everything some. SHELF 0: bytes, 1: shorts, 2: a ROUND, 3: nothing, 4: longs, 5: booleans. undos: how many of the
+     * nine CHANGES are UNDONE.
+     */
+    private static PalletSky something(String tape, int undos, boolean image, boolean acts) {
         PalletSky x = new PalletSky();
         x.build(40, 44);
         x.build(31, 54);
         x.build(52, 43);
         x.pane(1003);
         x.pane(502);
-        int[][] changes = {{0, 3, 2}, {0, 4, -1}, {1, 5, 2}, {0, 6, 90}, {2, 2, 1}, {0, 0, 3}, {0, 7, 9}, {0, 6, 70}, {0, 3, 1}};
-        for (int[] c : changes) {
+        for (int[] c : CHANGES) {
             x.mend(c[0], c[1], c[2]);
         }
-        x.undo();
-        x.undo();
+        for (int i = 0; i < undos; i++) {
+            x.undo();
+        }
         Due.told(x, "f/5+1");
-        feed(x, tape);
+        Due.feed(x, tape);
         x.watch(1, 1);
         x.watch(7, 1);
         x.nights(99, 3);
-        x.image();
+        if (image) {
+            x.image();
+        }
         x.nights(5, 2);
         x.watch(7, 0);
         x.watch(9, 1);
         for (int kind = 0; kind < 8; kind++) {
             x.body(kind);
         }
-        Due.bytes(x, 0, 3, 1, 0, 1, 2, 0, -1, 0, 1, 0);
+        Due.bytes(x, 0, 3, 1, 0, 0, 2, 0, -1, 0, 1, 0);
         x.row(1, 1, 3);
         x.put(1, 2, 300);
         x.keep(2, 4);
@@ -132,41 +135,36 @@ public final class RefusalsTest {
         return x;
     }
 
-    /** 24 ROUNDS, 8 PANES, all NIGHTS gone; SHELF 0: fifteen ROUNDS, 1: shorts. */
+    private static PalletSky something() {
+        return something("f>3?", 2, true, true);
+    }
+
+    /** 24 ROUNDS, 8 PANES, all NIGHTS gone, besides something. */
     private static PalletSky stacked() {
-        PalletSky x = new PalletSky();
-        int[] many = new int[60];
-        for (int i = 0; i < 60; i += 4) {
-            many[i] = 9 - i / 12;
-            many[i + 1] = 1;
+        PalletSky x = something();
+        for (int i = 3; i < 24; i++) {
+            x.rounds(0, 0, 1);
         }
-        Due.bytes(x, 0, many);
-        x.row(1, 1, 8);
-        x.rounds(0, 0, 15);
-        x.rounds(0, 0, 15);
-        for (int i = 0; i < 8; i++) {
+        for (int i = 2; i < 8; i++) {
             x.pane(500 + 100 * i + i);
         }
-        x.nights(3, 12);
-        x.image();
-        x.nights(4, 18);
+        x.nights(4, 25);
         return x;
     }
 
-    /** A THE TAPE of 120 bytes, 50 BODIES; SHELF 0: 60 longs, 1: no element, 2: the last BODY. */
+    /** THE TAPE of 120 bytes, 50 BODIES, besides something; SHELF 4: 60 longs, 5: no element, 2: the last BODY. */
     private static PalletSky acting() {
-        PalletSky x = new PalletSky();
-        x.build(31, 44);
-        feed(x, "f+1");
-        for (int i = 3; i < 120; i += 2) {
-            feed(x, i == 119 ? "+" : "+1");
+        StringBuilder tape = new StringBuilder("f+1");
+        while (tape.length() < 119) {
+            tape.append("+1");
         }
-        for (int i = 0; i < 50; i++) {
+        PalletSky x = something(tape.append('+').toString(), 2, true, false);
+        for (int i = 8; i < 50; i++) {
             x.body(i % 8);
         }
-        x.row(0, 3, 60);
-        x.put(0, 59, -1L);
-        x.row(1, 0, 0);
+        x.row(4, 3, 60);
+        x.put(4, 59, -1L);
+        x.row(5, 0, 0);
         x.keep(2, 49);
         x.act(47, 3, 1);
         return x;
@@ -220,7 +218,7 @@ public final class RefusalsTest {
 
     /** What is refused by more than BAD, and what stands for several reasons. */
     private static void some() {
-        in("some", () -> something("f>3?", true));
+        in("some", RefusalsTest::something);
         // rounds: BAD, then -12
         refused(OTHER_KIND, "rounds", 1, 0, 1);
         refused(OTHER_KIND, "rounds", 2, MAX, 15);
@@ -294,7 +292,7 @@ public final class RefusalsTest {
 
     /** What is BAD, either side of what is in. */
     private static void badOfSome() {
-        in("some", () -> something("7", true));
+        in("some", RefusalsTest::something);
         int[][] twos = {{9, 44}, {100, 44}, {-10, 44}, {1, 44}, {23, 44}, {10, -1}, {10, 89}, {10, 9}, {MAX, 44}, {10, MIN}};
         for (int[] t : twos) {
             refused(BAD, "build", t);
@@ -358,7 +356,7 @@ public final class RefusalsTest {
 
     /** Calls that answer, but are in thought. */
     private static void inThought() {
-        in("in thought", () -> something("m+", true));
+        in("in thought", RefusalsTest::something);
         int[][] nothing = {{}};
         int[][] one = {{0}, {1}, {2}, {3}};
         int[][] two = {{0, 0}, {1, 1}, {2, 0}};
@@ -383,13 +381,14 @@ public final class RefusalsTest {
     }
 
     private static void fullStack() {
-        in("24 ROUNDS", RefusalsTest::stacked);
+        in("24 ROUNDS, 8 PANES, 30 NIGHTS", RefusalsTest::stacked);
         // build: BAD, FULL, STATE
         refused(FULL, "build", 10, 44);
+        refused(FULL, "build", 99, 0);
         refused(BAD, "build", 10, 49);
         refused(BAD, "build", 12, 44);
         refused(0, "rounds", 0, 0, 15);
-        refused(0, "rounds", 0, 56, 1);
+        refused(0, "rounds", 0, 4, 1);
         refused(BAD, "rounds", 0, 0, 16);
         refused(OTHER_KIND, "rounds", 1, 0, 1);
         refused(FULL, "pane", 100);
@@ -416,13 +415,11 @@ public final class RefusalsTest {
         refused(VOID, "mend", 8, 5, 1);
         refused(VOID, "of", 24, 3);
         refused(VOID, "of", 8, 10);
-        refused(STATE, "undo");
-        refused(STATE, "redo");
     }
 
     private static void fullChanges() {
         in("40 changes", () -> {
-            PalletSky x = new PalletSky();
+            PalletSky x = something("f>3?", 0, true, true);
             for (int i = 1; i <= 45; i++) {
                 x.mend(0, 6, i);
             }
@@ -433,7 +430,7 @@ public final class RefusalsTest {
         refused(VOID, "mend", 0, 6, 0);
         refused(VOID, "mend", 0, 6, 1000);
         in("40 UNDONE", () -> {
-            PalletSky x = new PalletSky();
+            PalletSky x = something("f>3?", 9, true, true);
             for (int i = 1; i <= 40; i++) {
                 x.mend(0, 6, i);
             }
@@ -445,6 +442,10 @@ public final class RefusalsTest {
         refused(STATE, "undo");
         refused(200, "mend", 0, 6, 200);
         refused(VOID, "mend", 1, 6, 7);
+        in("all are UNDONE", () -> something("f>3?", 9, true, true));
+        refused(STATE, "undo");
+        in("none is UNDONE", () -> something("f>3?", 0, true, true));
+        refused(STATE, "redo");
     }
 
     private static void fullActs() {
@@ -460,26 +461,77 @@ public final class RefusalsTest {
         refused(BAD, "keep", 0, 50);
         refused(BAD, "trace", 14);
         refused(BAD, "trace", 24);
-        refused(NO_PLACE, "put", 0, 60, 1);
-        refused(NO_PLACE, "put", 1, 0, 1);
-        refused(Long.MIN_VALUE, "element", 1, 0);
-        refused(NO_PLACE, "shift", 0, 0, 0, 1, 60);
-        refused(NO_PLACE, "shift", 1, 0, 1, 0, 1);
-        refused(OTHER_KIND, "shift", 1, 0, 0, 0, 0);
-        refused(0, "shift", 1, 0, 1, 0, 0);
-        // no PANE: BAD ahead of what the SHELF holds
+        refused(NO_PLACE, "put", 4, 60, 1);
+        refused(NO_PLACE, "put", 5, 0, 1);
+        refused(Long.MIN_VALUE, "element", 5, 0);
+        refused(NO_PLACE, "shift", 4, 0, 4, 1, 60);
+        refused(NO_PLACE, "shift", 5, 0, 5, 0, 1);
+        refused(NO_PLACE, "shift", 5, 0, 0, 0, 1);
+        refused(OTHER_KIND, "shift", 5, 0, 4, 0, 0);
+        refused(0, "shift", 5, 0, 5, 0, 0);
+        refused(0, "rounds", 5, 0, 1);
+        refused(NOT, "judge", 5, 0);
+        refused(OTHER_KIND, "judge", 4, 0);
+    }
+
+    /** Something, but no ROUND, no PANE, no IMAGE, or a stack that falls. */
+    private static void lacking() {
+        in("no ROUND", () -> {
+            PalletSky x = something();
+            for (int i = 0; i < 3; i++) {
+                x.unbuild();
+            }
+            return x;
+        });
+        refused(STATE, "unbuild");
+        refused(STATE, "straight", 9, 1);
+        refused(BAD, "straight", 9, 2);
+        refused(BAD, "broad", 0);
+        refused(BAD, "fuel", 0, 0);
+        refused(VOID, "mend", 0, 0, 1);
+        refused(VOID, "of", 0, 6);
+        refused(NOT, "falls", 0);
+        refused(NOT, "topples", 1);
+        refused(0, "without");
+        in("no IMAGE", () -> something("f>3?", 2, false, true));
+        refused(STATE, "back");
+        in("no PANE", () -> {
+            PalletSky x = new PalletSky();
+            x.build(40, 44);
+            Due.bytes(x, 0, 1, 2, 3);
+            x.row(1, 1, 1);
+            return x;
+        });
+        // BAD ahead of what the SHELF holds
         refused(BAD, "judge", 0, 0);
-        refused(BAD, "judge", 2, 0);
+        refused(BAD, "judge", 1, 0);
         refused(BAD, "judge", 3, 0);
+        refused(VOID, "mend", 0, 5, 1);
+        refused(VOID, "of", 0, 11);
+        refused(BAD, "heat", 0, 0);
+        refused(0, "boarded", -1);
+        in("it falls", () -> {
+            PalletSky x = something();
+            x.build(10, 88);
+            x.build(90, 84);
+            return x;
+        });
+        DUE.is("it falls", made.get().falls(0), 0);
+        refused(0, "highest");
+        refused(0, "without");
+        refused(0, "topples", 0);
+        refused(NOT, "broad", 2);
+        refused(0, "burns", 0);
     }
 
     /** STORE lacks dry or damp ones, one of them or both. */
     private static void poor() {
         in("4 dry, 2 damp ones", () -> {
-            PalletSky x = new PalletSky();
-            x.build(98, 44);
-            x.build(90, 44);
-            x.build(60, 44);
+            PalletSky x = something();
+            while (x.of(0, 24) > 4 || x.of(0, 25) > 2) {
+                int dry = Math.min(4, x.of(0, 24) - 4), damp = Math.min(5, x.of(0, 25) - 2);
+                x.build(10 * (dry + damp) + damp, 44);
+            }
             return x;
         });
         int[] lacking = {50, 33, 43, 44, 61, 72, 99, 90, 63};
@@ -489,28 +541,26 @@ public final class RefusalsTest {
         // BAD ahead of STATE
         refused(BAD, "build", 90, 49);
         refused(BAD, "build", 34, 44);
-        DUE.is("all that is there is enough", made.get().build(62, 44), 3);
+        PalletSky x = made.get();
+        DUE.is("all that is there is enough", x.build(62, 44) >= 0 ? 1 : 0, 1);
+        DUE.is("none is left", x.of(0, 24) + x.of(0, 25), 0);
+        DUE.is("no dry one", x.build(10, 44), STATE);
+        DUE.is("no damp one", x.build(11, 44), STATE);
     }
 
     /** The ROUND of the latest change is not there. */
     private static void lost() {
         in("a ROUND that may be UNDONE is lost", () -> {
-            PalletSky x = new PalletSky();
-            x.build(30, 44);
-            x.build(20, 44);
-            x.mend(0, 6, 100);
-            x.mend(1, 1, 2);
+            PalletSky x = something("f>3?", 0, true, true);
+            x.mend(2, 1, 2);
             x.unbuild();
             return x;
         });
         refused(STATE, "undo");
         refused(STATE, "redo");
         in("a ROUND that may be DONE AGAIN is lost", () -> {
-            PalletSky x = new PalletSky();
-            x.build(30, 44);
-            x.build(22, 44);
-            x.mend(0, 6, 100);
-            x.mend(1, 2, 1);
+            PalletSky x = something("f>3?", 0, true, true);
+            x.mend(2, 2, 0);
             x.mend(0, 6, 150);
             x.undo();
             x.undo();
@@ -518,33 +568,35 @@ public final class RefusalsTest {
             return x;
         });
         refused(STATE, "redo");
-        // the one ahead of it may still be UNDONE, and then the one behind is DONE AGAIN no sooner than it
+        // the change ahead of it may still be UNDONE and DONE AGAIN, but none behind what is lost
         PalletSky x = made.get();
-        DUE.is("lost: undo", x.undo(), 0);
+        DUE.is("lost: undo", x.undo(), 8);
+        DUE.is("lost: WIND", x.of(0, 20), 2);
         DUE.is("lost: redo", x.redo(), 2);
+        DUE.is("lost: WIND", x.of(0, 20), 1);
         DUE.is("lost: redo of what is lost", x.redo(), STATE);
-        DUE.is("lost: LIMIT", x.of(0, 22), 100);
+        DUE.is("lost: LIMIT", x.of(0, 22), 70);
     }
 
     /** A refused act() takes THE TRACE away and nothing else; a FAULT takes THE TAPE away and nothing else. */
     private static void traceAndTape() {
-        made = () -> something("k+2", false);
+        made = () -> something("k+2", 2, true, false);
         before = looks(x -> { });
-        made = () -> something("k+2", true);
+        made = () -> something("k+2", 2, true, true);
         int[][] acts = {{8, 0, 1}, {-1, 0, 1}, {0, 4, 1}, {0, -1, 1}, {MAX, 3, 1}, {MIN, MIN, MIN}};
         for (int[] a : acts) {
             DUE.is("32: refused act", answer(made.get(), "act", a), 0);
             unchanged("act", a);
         }
-        made = () -> something("", true);
+        made = () -> something("", 2, true, true);
         before = looks(x -> { });
         for (String text : new String[] {"f+", "f+)", "12345", ";", "((((((("}) {
-            made = () -> something(text, true);
+            made = () -> something(text, 2, true, true);
             name = "THE TAPE " + text;
             unchanged("law");
         }
         // without a text: an empty THE TAPE is a FAULT at 0, and changes nothing at all
-        made = () -> something("", true);
+        made = () -> something("", 2, true, true);
         name = "an empty TAPE";
         refused(-100, "law");
     }

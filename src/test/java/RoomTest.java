@@ -52,6 +52,20 @@ public final class RoomTest {
             x.topples(i % 4);
             x.boarded(-1);
             x.cracks(0, 1);
+            x.falls(1);
+            x.broad(0);
+            x.of(0, 6);
+            x.count(2);
+            x.fuel(0, i);
+            x.burns(i % 4);
+            x.heat(0, i);
+            x.rival(i);
+            x.watch(i, 1);
+            x.led(1);
+            x.element(i % 6, i);
+            if (i == 23) {
+                x.unbuild();
+            }
         }
     }
 }
