@@ -284,13 +284,13 @@ public final class PalletSky {
         if (tower.size == 0) {
             return STATE;
         }
-        int slips = 0, least = Integer.MAX_VALUE;
+        int slips = 0, least = -1;
         for (int x = -4; x <= 4; x++) {
             for (int y = -4; y <= 4; y++) {
                 thought.copy(tower);
                 thought.raise(pallets, 0, x, y);
                 int strain = thought.strain(0, windX, windY);
-                if (strain < least) {
+                if (least < 0 || strain < least) {
                     least = strain;
                     slips = 10 * (x + 4) + y + 4;
                 }

@@ -31,6 +31,10 @@ public final class LanguageTest {
     private static final List<String> LIBRARY = List.of("java/lang/Object.<init>", "java/lang/System.arraycopy",
         "java/lang/Math.max", "java/lang/Math.min", "java/lang/Math.abs", "java/lang/Integer.bitCount");
 
+    // The document itself names Long.MIN_VALUE.
+    private static final List<String> NAMED = List.of("System.arraycopy", "Math.max", "Math.min", "Math.abs", "Integer.bitCount",
+        "Long.MIN_VALUE");
+
     // How javap shows the head of a method, and a step of it; of a call also whose and which.
     private static final Pattern HEAD = Pattern.compile("^  (?:\\w.*?)?(?:([\\w$]+)\\(.*\\)|static \\{\\});$");
     private static final Pattern STEP = Pattern.compile(
@@ -79,6 +83,11 @@ public final class LanguageTest {
             "Random", "Thread", "yield"};
         for (String word : none) {
             is("no word " + word, !Pattern.compile("\\b" + Pattern.quote(word) + "\\b").matcher(bare).find());
+        }
+        // Constants of the library leave no trace in the class: javap does not show them.
+        Matcher name = Pattern.compile("\\b(Integer|Long|Math|System|Arrays|Byte|Short|Character|Boolean)\\.(\\w+)").matcher(bare);
+        while (name.find()) {
+            is("rule 4: no " + name.group(), NAMED.contains(name.group()));
         }
         is("no lambda", !bare.contains("->"));
         is("no method reference", !bare.contains("::"));
